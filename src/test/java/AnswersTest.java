@@ -53,6 +53,9 @@ public final class AnswersTest {
         CHECK.due("nearest: none", made.nearest(8), -1);
         SharedModuli high = with(1, 9, 10);
         CHECK.due("nearest: to 3, -1 is no answer", high.nearest(3), 9);
+        CHECK.due("nearest: to 3, 0 is an answer", with(1, 0, 10).nearest(3), 0);
+        CHECK.due("nearest: to 5, 0 and 10 are as near", with(1, 0, 10).nearest(5), 0);
+        CHECK.due("nearest: to 6", with(1, 0, 10).nearest(6), 10);
         CHECK.due("nearest: above it", with(1, 1, 10).nearest(GREATEST), GREATEST + 1);
     }
 

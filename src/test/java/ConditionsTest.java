@@ -187,6 +187,7 @@ public final class ConditionsTest {
         CHECK.due("agree: 0 (3) is on", made.condition(4, 3), 1);
         CHECK.due("agree: undoable", made.undo(), 5);
         CHECK.due("agree: undone", made.condition(1, 3), 0);
+        CHECK.due("agree: nothing else is undone", made.condition(4, 3), 0);
         SharedModuli wide = great();
         wide.toggle(0);
         wide.add(1, 0, 2);

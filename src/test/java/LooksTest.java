@@ -133,6 +133,9 @@ public final class LooksTest {
         }
         CHECK.badArgument("count: -1", () -> made.count(-1));
         CHECK.badArgument("count: 7", () -> made.count(7));
+        CHECK.due("count: the first is void", with(2, 1, 2, 1, 0, 2).count(2), 1);
+        CHECK.due("count: told ones", with(1, 5, 6, 1, 1, 2, 1, 3, 5).count(5), 1);
+        CHECK.due("count: told ones, each by the other", with(1, 5, 6, 7, 5, 6).count(5), 2);
         SharedModuli voids = with(2, 1, 2);
         CHECK.due("count: a void one alone is no pair", voids.count(3), 0);
         CHECK.due("count: nor possible", voids.count(4), 0);

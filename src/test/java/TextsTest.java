@@ -79,6 +79,8 @@ public final class TextsTest {
         errorAt("x=00", 3);
         errorAt("x=01%1", 3);
         errorAt("x=1000", 5);
+        errorAt("x=1009", 5);
+        errorAt("x=9999", 5);
         errorAt("x=1;", 3);
         errorAt("x=0%0", 4);
         errorAt("x=0%;", 4);
@@ -159,6 +161,10 @@ public final class TextsTest {
         CHECK.due("undo: they agree with nothing but themselves", made.count(3), 1);
         made.add(1, 0, 1);
         CHECK.due("undo: saved again", made.undo(), 0);
+        made.remove(0);
+        made.undo();
+        CHECK.due("undo: they agree as before", made.agrees(0, 0), 1);
+        CHECK.due("undo: they contradict as before", made.agrees(0, 1), 0);
         CHECK.due("undo: undo itself is not undoable", made.count(6), 0);
     }
 

@@ -127,6 +127,9 @@ public final class WhatWouldBeTest {
         CHECK.due("blame: a void one before all", made.blame(), 4);
         made.toggle(4);
         CHECK.due("blame: not if it is off", made.blame(), 0);
+        SharedModuli single = with(1, 0, 2, 1, 1, 2);
+        single.toggle(0);
+        CHECK.due("blame: what is off contradicts none", single.blame(), -1);
         CHECK.due("blame: a void one alone", with(2, 1, 2).blame(), 0);
         CHECK.due("blame: the lowest void one", with(1, 0, 1, 2, 1, 2, 2, 1, 4).blame(), 1);
         CHECK.due("blame: a void one counts itself", with(1, 0, 2, 1, 1, 2, 2, 1, 2).blame(), 2);
