@@ -13,16 +13,8 @@ public final class AnswersTest {
         CHECK.end();
     }
 
-    private static SharedModuli with(int... parts) {
-        SharedModuli made = new SharedModuli();
-        for (int k = 0; k + 2 < parts.length; k += 3) {
-            made.add(parts[k], parts[k + 1], parts[k + 2]);
-        }
-        return made;
-    }
-
     private static void answer() {
-        SharedModuli made = with(1, 2, 6, 1, 8, 15);
+        SharedModuli made = Made.with(1, 2, 6, 1, 8, 15);
         CHECK.due("answer: from 0", made.answer(0, 0), 8);
         CHECK.due("answer: from 8", made.answer(8, 0), 8);
         CHECK.due("answer: from 9", made.answer(9, 0), 38);
@@ -40,7 +32,7 @@ public final class AnswersTest {
     }
 
     private static void nearest() {
-        SharedModuli made = with(1, 2, 6, 1, 8, 15);
+        SharedModuli made = Made.with(1, 2, 6, 1, 8, 15);
         CHECK.due("nearest: to 0, none is below 0", made.nearest(0), 8);
         CHECK.due("nearest: to 8", made.nearest(8), 8);
         CHECK.due("nearest: to 22", made.nearest(22), 8);
@@ -51,16 +43,16 @@ public final class AnswersTest {
         CHECK.badArgument("nearest: too great", () -> made.nearest(GREATEST + 1));
         made.add(2, 1, 2);
         CHECK.due("nearest: none", made.nearest(8), -1);
-        SharedModuli high = with(1, 9, 10);
+        SharedModuli high = Made.with(1, 9, 10);
         CHECK.due("nearest: to 3, -1 is no answer", high.nearest(3), 9);
-        CHECK.due("nearest: to 3, 0 is an answer", with(1, 0, 10).nearest(3), 0);
-        CHECK.due("nearest: to 5, 0 and 10 are as near", with(1, 0, 10).nearest(5), 0);
-        CHECK.due("nearest: to 6", with(1, 0, 10).nearest(6), 10);
-        CHECK.due("nearest: above it", with(1, 1, 10).nearest(GREATEST), GREATEST + 1);
+        CHECK.due("nearest: to 3, 0 is an answer", Made.with(1, 0, 10).nearest(3), 0);
+        CHECK.due("nearest: to 5, 0 and 10 are as near", Made.with(1, 0, 10).nearest(5), 0);
+        CHECK.due("nearest: to 6", Made.with(1, 0, 10).nearest(6), 10);
+        CHECK.due("nearest: above it", Made.with(1, 1, 10).nearest(GREATEST), GREATEST + 1);
     }
 
     private static void between() {
-        SharedModuli made = with(1, 2, 6, 1, 8, 15);
+        SharedModuli made = Made.with(1, 2, 6, 1, 8, 15);
         CHECK.due("between: 0, 7", made.between(0, 7), 0);
         CHECK.due("between: 0, 8", made.between(0, 8), 1);
         CHECK.due("between: 8, 8", made.between(8, 8), 1);
@@ -78,13 +70,13 @@ public final class AnswersTest {
     }
 
     private static void misses() {
-        SharedModuli made = with(1, 2, 6, 3, 1, 10, 2, 1, 2, 1, 8, 15);
+        SharedModuli made = Made.with(1, 2, 6, 3, 1, 10, 2, 1, 2, 1, 8, 15);
         CHECK.due("misses: 0 misses all", made.misses(0), 4);
         CHECK.due("misses: 8 misses 3x=1 (10) and the void one", made.misses(8), 2);
         CHECK.due("misses: 7", made.misses(7), 3);
         made.toggle(2);
         CHECK.due("misses: what is off is not missed", made.misses(8), 1);
-        CHECK.due("misses: the greatest", with(999, 0, 125).misses(GREATEST), 0);
+        CHECK.due("misses: the greatest", Made.with(999, 0, 125).misses(GREATEST), 0);
         CHECK.due("misses: none", new SharedModuli().misses(5), 0);
         CHECK.badArgument("misses: -1", () -> made.misses(-1));
         CHECK.badArgument("misses: too great", () -> made.misses(GREATEST + 1));
@@ -102,7 +94,7 @@ public final class AnswersTest {
     private static void tryAll() {
         int[][] lists = {{1, 2, 6, 1, 8, 15}, {4, 2, 6, 9, 6, 21}, {5, 3, 8, 6, 4, 10, 7, 7, 49}, {1, 5, 1}};
         for (int[] parts : lists) {
-            SharedModuli made = with(parts);
+            SharedModuli made = Made.with(parts);
             long next = made.answer(0, 0);
             int met = 0;
             for (int x = 0; x < 3000; x++) {
@@ -117,7 +109,7 @@ public final class AnswersTest {
     }
 
     private static void atAGreatN() {
-        SharedModuli made = with(1, 996, 997, 1, 990, 991, 1, 982, 983, 1, 976, 977, 1, 970, 971);
+        SharedModuli made = Made.with(1, 996, 997, 1, 990, 991, 1, 982, 983, 1, 976, 977, 1, 970, 971);
         long n = 921374363638847L;
         CHECK.due("great: R is N less 1", made.joined(1), n - 1);
         CHECK.due("great: the hundredth", made.answer(GREATEST, 99), 101 * n - 1);

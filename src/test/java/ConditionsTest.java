@@ -17,14 +17,6 @@ public final class ConditionsTest {
         CHECK.end();
     }
 
-    private static SharedModuli with(int... parts) {
-        SharedModuli made = new SharedModuli();
-        for (int k = 0; k + 2 < parts.length; k += 3) {
-            made.add(parts[k], parts[k + 1], parts[k + 2]);
-        }
-        return made;
-    }
-
     private static SharedModuli great() {
         SharedModuli made = new SharedModuli();
         for (int modulus : GREAT) {
@@ -78,12 +70,12 @@ public final class ConditionsTest {
         CHECK.badState("add: the other condition asks for 997 too", () -> made.add(1, 1, 2));
         made.toggle(6);
         CHECK.due("add: what is off does not count", made.add(1, 1, 2), 8);
-        SharedModuli exact = with(1, 0, 512, 1, 0, 625, 1, 0, 125, 2, 0, 32);
+        SharedModuli exact = Made.with(1, 0, 512, 1, 0, 625, 1, 0, 125, 2, 0, 32);
         CHECK.due("N 320000", exact.joined(0), 320000);
     }
 
     private static void remove() {
-        SharedModuli made = with(1, 0, 2, 1, 0, 3, 1, 0, 5);
+        SharedModuli made = Made.with(1, 0, 2, 1, 0, 3, 1, 0, 5);
         CHECK.badIndex("remove: -1", () -> made.remove(-1));
         CHECK.badIndex("remove: 3", () -> made.remove(3));
         made.toggle(2);
@@ -126,7 +118,7 @@ public final class ConditionsTest {
     }
 
     private static void bare() {
-        SharedModuli made = with(6, 3, 9, 2, 1, 4, 7, 21, 21, 999, 998, 997, 5, 0, 5);
+        SharedModuli made = Made.with(6, 3, 9, 2, 1, 4, 7, 21, 21, 999, 998, 997, 5, 0, 5);
         CHECK.badIndex("bare: -1", () -> made.bare(-1));
         CHECK.badIndex("bare: 5", () -> made.bare(5));
         CHECK.badState("bare: void", () -> made.bare(1));
@@ -152,7 +144,7 @@ public final class ConditionsTest {
         SharedModuli none = new SharedModuli();
         CHECK.due("thin: none", none.thin(), 0);
         CHECK.due("thin: saves also if nothing changes", none.count(6), 1);
-        SharedModuli made = with(1, 5, 6, 1, 1, 2, 1, 2, 3, 1, 0, 1, 1, 5, 12);
+        SharedModuli made = Made.with(1, 5, 6, 1, 1, 2, 1, 2, 3, 1, 0, 1, 1, 5, 12);
         made.toggle(4);
         CHECK.due("thin: the first is told by both others, and then these by none", made.thin(), 2);
         CHECK.due("thin: 5 (6)", made.condition(0, 3), 0);
@@ -163,20 +155,20 @@ public final class ConditionsTest {
         CHECK.due("thin: N is as before", made.joined(0), 6);
         made.undo();
         CHECK.due("thin: undone", made.count(1), 4);
-        SharedModuli twins = with(1, 1, 4, 1, 1, 4);
+        SharedModuli twins = Made.with(1, 1, 4, 1, 1, 4);
         CHECK.due("thin: of twins one", twins.thin(), 1);
         CHECK.due("thin: the first", twins.condition(0, 3), 0);
-        SharedModuli apart = with(1, 0, 2, 1, 1, 2);
+        SharedModuli apart = Made.with(1, 0, 2, 1, 1, 2);
         CHECK.badState("thin: not possible together", () -> apart.thin());
         CHECK.due("thin: nothing saved", apart.count(6), 2);
-        SharedModuli voids = with(2, 1, 2);
+        SharedModuli voids = Made.with(2, 1, 2);
         CHECK.badState("thin: a void one is on", () -> voids.thin());
         voids.toggle(0);
         CHECK.due("thin: a void one is off", voids.thin(), 0);
     }
 
     private static void agree() {
-        SharedModuli made = with(1, 0, 2, 1, 1, 2, 1, 1, 4, 2, 1, 2, 1, 0, 3);
+        SharedModuli made = Made.with(1, 0, 2, 1, 1, 2, 1, 1, 4, 2, 1, 2, 1, 0, 3);
         made.toggle(1);
         made.toggle(4);
         CHECK.due("agree: 1 (2), 1 (4) and 0 (3)", made.agree(), 3);
@@ -193,7 +185,7 @@ public final class ConditionsTest {
         wide.add(1, 0, 2);
         CHECK.badState("agree: N too great", () -> wide.agree());
         CHECK.due("agree: refused, so as before", wide.condition(0, 3), 0);
-        SharedModuli voids = with(2, 1, 2);
+        SharedModuli voids = Made.with(2, 1, 2);
         CHECK.due("agree: nothing is possible", voids.agree(), 0);
         CHECK.due("agree: so it is off", voids.condition(0, 3), 0);
         CHECK.due("agree: no conditions", new SharedModuli().agree(), 0);

@@ -15,14 +15,6 @@ public final class LooksTest {
         CHECK.end();
     }
 
-    private static SharedModuli with(int... parts) {
-        SharedModuli made = new SharedModuli();
-        for (int k = 0; k + 2 < parts.length; k += 3) {
-            made.add(parts[k], parts[k + 1], parts[k + 2]);
-        }
-        return made;
-    }
-
     private static void properties(SharedModuli of, int condition, int... due) {
         for (int what = 0; what < due.length; what++) {
             CHECK.due("condition " + condition + ", " + what, of.condition(condition, what), due[what]);
@@ -30,7 +22,7 @@ public final class LooksTest {
     }
 
     private static void condition() {
-        SharedModuli made = with(6, 3, 9, 4, 2, 8, 1, 999, 7, 10, 5, 25, 3, 3, 1);
+        SharedModuli made = Made.with(6, 3, 9, 4, 2, 8, 1, 999, 7, 10, 5, 25, 3, 3, 1);
         properties(made, 0, 6, 3, 9, 1, 0, 3, 2);
         properties(made, 1, 4, 2, 8, 1, 1, -1, -1);
         properties(made, 2, 1, 999, 7, 1, 0, 7, 5);
@@ -45,7 +37,7 @@ public final class LooksTest {
     }
 
     private static void conditionAmongOthers() {
-        SharedModuli made = with(1, 0, 2, 1, 1, 2, 1, 1, 4, 2, 1, 2, 1, 1, 3);
+        SharedModuli made = Made.with(1, 0, 2, 1, 1, 2, 1, 1, 4, 2, 1, 2, 1, 1, 3);
         CHECK.due("condition: 0 (2) against 1 (2), 1 (4) and the void one", made.condition(0, 7), 3);
         CHECK.due("condition: 1 (2) against 0 (2) and the void one", made.condition(1, 7), 2);
         CHECK.due("condition: the void one against all others", made.condition(3, 7), 4);
@@ -57,7 +49,7 @@ public final class LooksTest {
     }
 
     private static void conditionTold() {
-        SharedModuli made = with(1, 5, 6, 1, 1, 2, 1, 2, 3, 1, 3, 5);
+        SharedModuli made = Made.with(1, 5, 6, 1, 1, 2, 1, 2, 3, 1, 3, 5);
         CHECK.due("told: 5 (6) by 1 (2) and 2 (3)", made.condition(0, 8), 1);
         CHECK.due("told: 1 (2) by 5 (6)", made.condition(1, 8), 1);
         CHECK.due("told: 3 (5) by none", made.condition(3, 8), 0);
@@ -68,11 +60,11 @@ public final class LooksTest {
         made.add(1, 0, 3);
         CHECK.due("told: the others are not possible together", made.condition(1, 8), 0);
         CHECK.due("told: nor those against which it is", made.condition(4, 8), 0);
-        SharedModuli alone = with(4, 8, 4);
+        SharedModuli alone = Made.with(4, 8, 4);
         CHECK.due("told: all numbers, by none", alone.condition(0, 8), 1);
-        SharedModuli voids = with(2, 1, 2);
+        SharedModuli voids = Made.with(2, 1, 2);
         CHECK.due("told: a void one is not", voids.condition(0, 8), 0);
-        SharedModuli part = with(1, 1, 4, 1, 0, 2, 1, 1, 8);
+        SharedModuli part = Made.with(1, 1, 4, 1, 0, 2, 1, 1, 8);
         CHECK.due("told: 0 (2) is contradicted, not told", part.condition(1, 8), 0);
         part.toggle(1);
         CHECK.due("told: 1 (8) not by 1 (4)", part.condition(2, 8), 0);
@@ -80,7 +72,7 @@ public final class LooksTest {
     }
 
     private static void agrees() {
-        SharedModuli made = with(1, 2, 6, 1, 8, 15, 1, 0, 4, 2, 1, 4, 1, 1, 10);
+        SharedModuli made = Made.with(1, 2, 6, 1, 8, 15, 1, 0, 4, 2, 1, 4, 1, 1, 10);
         CHECK.due("agrees: 2 (6), 8 (15) by 3", made.agrees(0, 1), 1);
         CHECK.due("agrees: 2 (6), 0 (4) by 2", made.agrees(0, 2), 1);
         CHECK.due("agrees: 8 (15), 0 (4) by 1", made.agrees(2, 1), 1);
@@ -98,7 +90,7 @@ public final class LooksTest {
     }
 
     private static void joined() {
-        SharedModuli made = with(1, 2, 6, 1, 8, 15);
+        SharedModuli made = Made.with(1, 2, 6, 1, 8, 15);
         CHECK.due("joined: N", made.joined(0), 30);
         CHECK.due("joined: R", made.joined(1), 8);
         made.add(1, 1, 7);
@@ -114,12 +106,12 @@ public final class LooksTest {
         CHECK.due("joined: what is off does not count", made.joined(0), 2310);
         CHECK.badArgument("joined: -1", () -> made.joined(-1));
         CHECK.badArgument("joined: 2", () -> made.joined(2));
-        SharedModuli voids = with(2, 1, 2);
+        SharedModuli voids = Made.with(2, 1, 2);
         CHECK.due("joined: void", voids.joined(0), -1);
     }
 
     private static void count() {
-        SharedModuli made = with(1, 0, 2, 1, 1, 2, 2, 1, 2, 1, 0, 1, 2, 1, 4);
+        SharedModuli made = Made.with(1, 0, 2, 1, 1, 2, 2, 1, 2, 1, 0, 1, 2, 1, 4);
         made.toggle(4);
         int[] due = {5, 4, 2, 4, 0, 0, 6};
         for (int what = 0; what < due.length; what++) {
@@ -133,10 +125,10 @@ public final class LooksTest {
         }
         CHECK.badArgument("count: -1", () -> made.count(-1));
         CHECK.badArgument("count: 7", () -> made.count(7));
-        CHECK.due("count: the first is void", with(2, 1, 2, 1, 0, 2).count(2), 1);
-        CHECK.due("count: told ones", with(1, 5, 6, 1, 1, 2, 1, 3, 5).count(5), 1);
-        CHECK.due("count: told ones, each by the other", with(1, 5, 6, 7, 5, 6).count(5), 2);
-        SharedModuli voids = with(2, 1, 2);
+        CHECK.due("count: the first is void", Made.with(2, 1, 2, 1, 0, 2).count(2), 1);
+        CHECK.due("count: told ones", Made.with(1, 5, 6, 1, 1, 2, 1, 3, 5).count(5), 1);
+        CHECK.due("count: told ones, each by the other", Made.with(1, 5, 6, 7, 5, 6).count(5), 2);
+        SharedModuli voids = Made.with(2, 1, 2);
         CHECK.due("count: a void one alone is no pair", voids.count(3), 0);
         CHECK.due("count: nor possible", voids.count(4), 0);
     }
@@ -148,10 +140,10 @@ public final class LooksTest {
     }
 
     private static void prime() {
-        SharedModuli made = with(1, 5, 12, 1, 7, 8, 2, 6, 48, 1, 15, 24, 2, 1, 64, 1, 30, 31);
+        SharedModuli made = Made.with(1, 5, 12, 1, 7, 8, 2, 6, 48, 1, 15, 24, 2, 1, 64, 1, 30, 31);
         asks(made, 2, 1, 8, 7, 2);
         asks(new SharedModuli(), 2, -1, 1, 0, 0);
-        SharedModuli one = with(1, 5, 12, 1, 7, 8, 1, 15, 24, 2, 1, 64, 1, 30, 31);
+        SharedModuli one = Made.with(1, 5, 12, 1, 7, 8, 1, 15, 24, 2, 1, 64, 1, 30, 31);
         asks(one, 2, 1, 8, 7, 1);
         asks(one, 3, 0, 3, 2, 1);
         asks(one, 31, 4, 31, 30, 0);
@@ -163,12 +155,12 @@ public final class LooksTest {
         asks(one, 2, 0, 4, 1, 0);
         one.toggle(0);
         asks(one, 2, -1, 1, 0, 0);
-        asks(with(1, 600, 512), 2, 0, 512, 88, 0);
-        asks(with(1, 700, 729), 3, 0, 729, 700, 0);
+        asks(Made.with(1, 600, 512), 2, 0, 512, 88, 0);
+        asks(Made.with(1, 700, 729), 3, 0, 729, 700, 0);
     }
 
     private static void primeContradictions() {
-        SharedModuli made = with(1, 0, 2, 1, 1, 4, 1, 3, 4, 1, 5, 16, 1, 13, 32, 2, 1, 2, 1, 2, 3);
+        SharedModuli made = Made.with(1, 0, 2, 1, 1, 4, 1, 3, 4, 1, 5, 16, 1, 13, 32, 2, 1, 2, 1, 2, 3);
         asks(made, 2, 4, 32, 13, 3);
         asks(made, 3, 6, 3, 2, 0);
         made.toggle(2);
@@ -176,7 +168,7 @@ public final class LooksTest {
     }
 
     private static void primeOfWrongArguments() {
-        SharedModuli made = with(1, 0, 30);
+        SharedModuli made = Made.with(1, 0, 30);
         for (int p : new int[] {Integer.MIN_VALUE, -2, 0, 1, 4, 6, 8, 9, 10, 12, 14, 15, 16, 18, 20, 21, 22, 24, 25, 26,
             27, 28, 30, 32, 37, Integer.MAX_VALUE}) {
             CHECK.badArgument("prime: " + p, () -> made.prime(p, 0));

@@ -16,14 +16,6 @@ public final class WhatWouldBeTest {
         CHECK.end();
     }
 
-    private static SharedModuli with(int... parts) {
-        SharedModuli made = new SharedModuli();
-        for (int k = 0; k + 2 < parts.length; k += 3) {
-            made.add(parts[k], parts[k + 1], parts[k + 2]);
-        }
-        return made;
-    }
-
     private static void dueIfAdded(SharedModuli to, int a, int b, int m, long... due) {
         for (int what = 0; what < due.length; what++) {
             CHECK.due("ifAdded " + a + "x=" + b + "%" + m + ", " + what, to.ifAdded(a, b, m, what), due[what]);
@@ -31,7 +23,7 @@ public final class WhatWouldBeTest {
     }
 
     private static void ifAdded() {
-        SharedModuli made = with(1, 2, 6, 1, 8, 15);
+        SharedModuli made = Made.with(1, 2, 6, 1, 8, 15);
         dueIfAdded(made, 1, 1, 7, 210, 8, 0, 0);
         dueIfAdded(made, 1, 0, 2, 30, 8, 0, 1);
         dueIfAdded(made, 1, 8, 30, 30, 8, 0, 1);
@@ -51,12 +43,12 @@ public final class WhatWouldBeTest {
     }
 
     private static void ifAddedRefused() {
-        SharedModuli wide = with(1, 0, 997, 1, 0, 991, 1, 0, 983, 1, 0, 977, 1, 0, 971);
+        SharedModuli wide = Made.with(1, 0, 997, 1, 0, 991, 1, 0, 983, 1, 0, 977, 1, 0, 971);
         dueIfAdded(wide, 1, 0, 2, -1, -1, -1, -1);
         dueIfAdded(wide, 2, 0, 2, 921374363638847L, 0, 0, 1);
         dueIfAdded(wide, 2, 1, 2, -1, -1, 5, 0);
         dueIfAdded(wide, 1, 1, 997, -1, -1, 1, 0);
-        SharedModuli full = with(1, 0, 1, 1, 0, 1, 1, 0, 1, 1, 0, 1, 1, 0, 1, 1, 0, 1, 1, 0, 1, 1, 0, 1, 1, 0, 1, 1, 0, 1);
+        SharedModuli full = Made.with(1, 0, 1, 1, 0, 1, 1, 0, 1, 1, 0, 1, 1, 0, 1, 1, 0, 1, 1, 0, 1, 1, 0, 1, 1, 0, 1, 1, 0, 1);
         dueIfAdded(full, 1, 0, 1, -1, -1, -1, -1);
         full.toggle(3);
         dueIfAdded(full, 2, 1, 2, -1, -1, -1, -1);
@@ -75,7 +67,7 @@ public final class WhatWouldBeTest {
     }
 
     private static void without() {
-        SharedModuli made = with(1, 2, 6, 1, 8, 15, 1, 1, 2);
+        SharedModuli made = Made.with(1, 2, 6, 1, 8, 15, 1, 1, 2);
         CHECK.due("without: N without 1 (2)", made.without(2, 0), 30);
         CHECK.due("without: R without 1 (2)", made.without(2, 1), 8);
         CHECK.due("without: N without 2 (6)", made.without(0, 0), 30);
@@ -90,23 +82,23 @@ public final class WhatWouldBeTest {
         CHECK.badArgument("without: what -1", () -> made.without(0, -1));
         CHECK.badArgument("without: what 2", () -> made.without(0, 2));
         CHECK.badIndex("without: both wrong", () -> made.without(3, 2));
-        SharedModuli alone = with(2, 1, 2);
+        SharedModuli alone = Made.with(2, 1, 2);
         CHECK.due("without: N without the only one", alone.without(0, 0), 1);
         CHECK.due("without: R without the only one", alone.without(0, 1), 0);
     }
 
     private static void most() {
         CHECK.due("most: no conditions", new SharedModuli().most(), 0);
-        CHECK.due("most: a void one", with(2, 1, 2).most(), 0);
-        SharedModuli made = with(1, 0, 2, 1, 1, 2, 1, 1, 4, 2, 1, 2, 1, 0, 3);
+        CHECK.due("most: a void one", Made.with(2, 1, 2).most(), 0);
+        SharedModuli made = Made.with(1, 0, 2, 1, 1, 2, 1, 1, 4, 2, 1, 2, 1, 0, 3);
         CHECK.due("most: 1 (2), 1 (4), 0 (3)", made.most(), 0b10110);
         made.toggle(1);
         made.toggle(4);
         CHECK.due("most: on or off", made.most(), 0b10110);
-        CHECK.due("most: of several the least mask", with(1, 0, 3, 1, 1, 3, 1, 2, 3).most(), 1);
-        CHECK.due("most: two pairs", with(1, 0, 3, 1, 1, 3, 1, 1, 3, 1, 0, 3).most(), 0b0110);
-        CHECK.due("most: agreeing in pairs", with(1, 0, 6, 1, 4, 10, 1, 9, 15).most(), 0b111);
-        SharedModuli wide = with(1, 0, 997, 1, 0, 991, 1, 0, 983, 1, 0, 977, 1, 0, 971);
+        CHECK.due("most: of several the least mask", Made.with(1, 0, 3, 1, 1, 3, 1, 2, 3).most(), 1);
+        CHECK.due("most: two pairs", Made.with(1, 0, 3, 1, 1, 3, 1, 1, 3, 1, 0, 3).most(), 0b0110);
+        CHECK.due("most: agreeing in pairs", Made.with(1, 0, 6, 1, 4, 10, 1, 9, 15).most(), 0b111);
+        SharedModuli wide = Made.with(1, 0, 997, 1, 0, 991, 1, 0, 983, 1, 0, 977, 1, 0, 971);
         for (int modulus : new int[] {967, 953, 947, 941, 937}) {
             wide.toggle(wide.count(0) - 5);
             wide.add(1, 1, modulus);
@@ -117,9 +109,9 @@ public final class WhatWouldBeTest {
 
     private static void blame() {
         CHECK.due("blame: no conditions", new SharedModuli().blame(), -1);
-        CHECK.due("blame: possible", with(1, 2, 6, 1, 8, 15).blame(), -1);
-        CHECK.due("blame: of two the lowest", with(1, 0, 3, 1, 0, 2, 1, 1, 2).blame(), 1);
-        SharedModuli made = with(1, 1, 4, 1, 3, 8, 1, 0, 2, 1, 1, 2);
+        CHECK.due("blame: possible", Made.with(1, 2, 6, 1, 8, 15).blame(), -1);
+        CHECK.due("blame: of two the lowest", Made.with(1, 0, 3, 1, 0, 2, 1, 1, 2).blame(), 1);
+        SharedModuli made = Made.with(1, 1, 4, 1, 3, 8, 1, 0, 2, 1, 1, 2);
         CHECK.due("blame: 0 (2)", made.blame(), 2);
         made.toggle(3);
         CHECK.due("blame: all against all", made.blame(), 0);
@@ -127,20 +119,20 @@ public final class WhatWouldBeTest {
         CHECK.due("blame: a void one before all", made.blame(), 4);
         made.toggle(4);
         CHECK.due("blame: not if it is off", made.blame(), 0);
-        SharedModuli single = with(1, 0, 2, 1, 1, 2);
+        SharedModuli single = Made.with(1, 0, 2, 1, 1, 2);
         single.toggle(0);
         CHECK.due("blame: what is off contradicts none", single.blame(), -1);
-        CHECK.due("blame: a void one alone", with(2, 1, 2).blame(), 0);
-        CHECK.due("blame: the lowest void one", with(1, 0, 1, 2, 1, 2, 2, 1, 4).blame(), 1);
-        CHECK.due("blame: a void one counts itself", with(1, 0, 2, 1, 1, 2, 2, 1, 2).blame(), 2);
+        CHECK.due("blame: a void one alone", Made.with(2, 1, 2).blame(), 0);
+        CHECK.due("blame: the lowest void one", Made.with(1, 0, 1, 2, 1, 2, 2, 1, 4).blame(), 1);
+        CHECK.due("blame: a void one counts itself", Made.with(1, 0, 2, 1, 1, 2, 2, 1, 2).blame(), 2);
     }
 
     private static void density() {
         CHECK.dueDouble("density: all numbers", new SharedModuli().density(), 1.0);
-        CHECK.dueDouble("density: 30", with(1, 2, 6, 1, 8, 15).density(), 1.0 / 30.0);
-        CHECK.dueDouble("density: none", with(1, 0, 2, 1, 1, 2).density(), 0.0);
-        CHECK.dueDouble("density: void", with(2, 1, 2).density(), 0.0);
-        SharedModuli wide = with(1, 0, 997, 1, 0, 991, 1, 0, 983, 1, 0, 977, 1, 0, 971);
+        CHECK.dueDouble("density: 30", Made.with(1, 2, 6, 1, 8, 15).density(), 1.0 / 30.0);
+        CHECK.dueDouble("density: none", Made.with(1, 0, 2, 1, 1, 2).density(), 0.0);
+        CHECK.dueDouble("density: void", Made.with(2, 1, 2).density(), 0.0);
+        SharedModuli wide = Made.with(1, 0, 997, 1, 0, 991, 1, 0, 983, 1, 0, 977, 1, 0, 971);
         CHECK.dueDouble("density: great", wide.density(), 1.0 / 921374363638847.0);
     }
 
@@ -162,7 +154,7 @@ public final class WhatWouldBeTest {
 
     /** All values are worked out by hand: x=2%6 and 3x=4%10, on, with "x" in the buffer. */
     private static void digestOfAState() {
-        SharedModuli made = with(1, 2, 6, 3, 4, 10);
+        SharedModuli made = Made.with(1, 2, 6, 3, 4, 10);
         made.append('x');
         long density = Double.doubleToLongBits(1.0 / 30.0);
         long due = hash(2, 2, 0, 0, 1, 0, 2, 30, 8,
@@ -171,7 +163,7 @@ public final class WhatWouldBeTest {
             0, 2, 0, 0, 0, 3, 2, 0, 1, 5, 3, 0, -1, 1, 0, 0, -1, 1, 0, 0, -1, 1, 0, 0,
             8, 38, 68, 1028, 488, 334, 2, 2, -1, -1, 2, 0, 3, -1, density, 1, 'x');
         CHECK.due("digest: two conditions", made.digest(), due);
-        SharedModuli apart = with(1, 0, 2, 1, 1, 2);
+        SharedModuli apart = Made.with(1, 0, 2, 1, 1, 2);
         CHECK.due("digest: not possible", apart.digest(), hash(2, 2, 0, 1, 0, 0, 2, -1, -1,
             1, 0, 2, 1, 0, 2, 0, 1, 0, 1, 0, 2, 1,
             1, 1, 2, 1, 0, 2, 1, 1, 0, 0, 1, 2, 0,
@@ -180,7 +172,7 @@ public final class WhatWouldBeTest {
     }
 
     private static void looksChangeNothing() {
-        SharedModuli made = with(1, 2, 6, 3, 4, 10, 2, 1, 2);
+        SharedModuli made = Made.with(1, 2, 6, 3, 4, 10, 2, 1, 2);
         made.toggle(2);
         made.append('x');
         long before = made.digest();
